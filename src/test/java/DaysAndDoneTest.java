@@ -12,6 +12,7 @@ public final class DaysAndDoneTest {
         best();
         on();
         lasts();
+        asItIs();
         Check.end();
     }
 
@@ -63,9 +64,11 @@ public final class DaysAndDoneTest {
             x.put(i, i);
         }
         int all = 6 * (50 + 8 * 99 + 9);
-        for (int day = 1; day <= 220; day++) {
+        for (int day = 1; day <= 200; day++) {
             x.day();
-            Check.due("DONE", x.told(12), Math.min(999999, day * all));
+            if (day % 5 == 0) {
+                Check.due("DONE on day " + day, x.told(12), Math.min(999999, day * all));
+            }
         }
         Check.due("DONE more is told beyond", x.on(2, 30), 30 * all);
     }
@@ -189,5 +192,31 @@ public final class DaysAndDoneTest {
         // A TRADE may be below WORK for a day only.
         Check.town(x, "gall 40 d=3");
         Check.due("on a day", x.lasts(0), 2);
+    }
+
+    /** FITS by HEAD, by DAY and by USED: all is asked of where and when it is now. */
+    private static void asItIs() {
+        HatsDecide x = Check.heads(0, 0, 0);
+        x.hat(0, 0, 0, 10, 0);
+        x.hat(0, 0, 0, 10, 1);
+        x.hat(0, 0, 0, 10, 1);
+        Check.town(x, "suit 1 e=0;suit 2 e=1;suit 4 e=2;suit 8 d=1;suit 16 u=0&a=0;work 0 27;work 1 24");
+        Check.wear(x, 0, 2);
+        Check.due("today of 0", x.today(0), 27);
+        Check.due("today of 1", x.today(1), 14);
+        Check.due("today of all", x.today(-1), 41);
+        Check.due("enough", x.enough(), 1);
+        Check.due("best", x.best(1), 2);
+        Check.due("on a day", x.on(1, 1), 14);
+        Check.due("on three days", x.on(1, 3), 14 + 22 + 14);
+        Check.due("on three days, used", x.on(0, 3), 27 + 19 + 11);
+        Check.due("lasts", x.lasts(0), 1);
+        Check.due("lasts no day", x.lasts(1), 0);
+        Check.due("a day", x.day(), 41);
+        Check.due("DONE of 0", x.told(10), 27);
+        Check.due("DONE of 1", x.told(11), 14);
+        Check.due("today, a day later", x.today(-1), 19 + 22);
+        Check.due("another day", x.day(), 41);
+        Check.due("today, two days later", x.today(-1), 11 + 14);
     }
 }

@@ -284,72 +284,94 @@ public final class HeadsHatsTownsTest {
         x.feed('?');
         Check.due("FULL ahead of a fault", x.town(), FULL);
         Check.due("the text stays", x.count(5), 7);
+        townBehindFaults();
+    }
+
+    /** What TEXTS with a FAULT leave behind must not reach the next TOWN. */
+    private static void townBehindFaults() {
+        HatsDecide x = Check.heads(0);
+        x.hat(0, 0, 0, 1, 0);
+        String wrong = "work 0 5;moth 7;suit 9 " + "a=0|".repeat(18);
+        for (int i = 0; i < 4; i++) {
+            Check.due("a long fault", Check.town(x, wrong), -10 - wrong.length());
+        }
+        Check.due("a town then", Check.town(x, "gall 1 a=1;suit 6 !a=1&(a=0|a=2)"), 0);
+        Check.due("its FITS", x.of(0, 10), 7);
+        Check.due("its MOTH", x.told(1), 0);
+        Check.due("its WORK", x.told(20), 10);
     }
 
     private static void faults() {
-        HatsDecide x = new HatsDecide();
-        fault(x, "", 0);
-        fault(x, "x", 0);
-        fault(x, " suit 1 a=1", 0);
-        fault(x, "Suit 1 a=1", 0);
-        fault(x, "sui", 3);
-        fault(x, "suti 1 a=1", 2);
-        fault(x, "suit", 4);
-        fault(x, "suit1 a=1", 4);
-        fault(x, "suit ", 5);
-        fault(x, "suit  1 a=1", 5);
-        fault(x, "suit a", 5);
-        fault(x, "suit 1", 6);
-        fault(x, "suit 1a=1", 6);
-        fault(x, "suit 12", 7);
-        fault(x, "suit 123", 7);
-        fault(x, "suit 1;", 6);
-        fault(x, "suit 1 ", 7);
-        fault(x, "suit 1 b=1", 7);
-        fault(x, "suit 1 a", 8);
-        fault(x, "suit 1 a!1", 8);
-        fault(x, "suit 1 a=", 9);
-        fault(x, "suit 1 a=a", 9);
-        fault(x, "suit 1 a=123", 11);
-        fault(x, "suit 1 a=1 ", 10);
-        fault(x, "suit 1 a=1)", 10);
-        fault(x, "suit 1 a=1&", 11);
-        fault(x, "suit 1 a=1|;", 11);
-        fault(x, "suit 1 a=1&&a=1", 11);
-        fault(x, "suit 1 (a=1", 11);
-        fault(x, "suit 1 (a=1;moth 1", 11);
-        fault(x, "suit 1 ()", 8);
-        fault(x, "suit 1 !", 8);
-        fault(x, "suit 1 !!!!!a=1", 11);
-        fault(x, "suit 1 !(!(!a=1))", 11);
-        fault(x, "suit 1 ((((!a=1))))", 11);
-        fault(x, "suit 1 ((((a=1)))", 17);
-        fault(x, "gall 1", 6);
-        fault(x, "gull 1 a=1", 1);
-        fault(x, "moth 1 2", 6);
-        fault(x, "moth 123", 7);
-        fault(x, "math 1", 1);
-        fault(x, "work 1", 6);
-        fault(x, "work 1 ", 7);
-        fault(x, "work 1 2 3", 8);
-        fault(x, "word 1 2", 3);
-        fault(x, "moth 1;", 7);
-        fault(x, "moth 1;;", 7);
-        fault(x, "moth 1; moth 1", 7);
-        fault(x, "moth 1moth 1", 6);
+        fault("", 0);
+        fault("x", 0);
+        fault(" suit 1 a=1", 0);
+        fault("Suit 1 a=1", 0);
+        fault("sui", 3);
+        fault("suti 1 a=1", 2);
+        fault("suit", 4);
+        fault("suit1 a=1", 4);
+        fault("suit ", 5);
+        fault("suit  1 a=1", 5);
+        fault("suit a", 5);
+        fault("suit 1", 6);
+        fault("suit 1a=1", 6);
+        fault("suit 12", 7);
+        fault("suit 123", 7);
+        fault("suit 1;", 6);
+        fault("suit 1 ", 7);
+        fault("suit 1 b=1", 7);
+        fault("suit 1 a", 8);
+        fault("suit 1 a!1", 8);
+        fault("suit 1 a=", 9);
+        fault("suit 1 a=a", 9);
+        fault("suit 1 a=123", 11);
+        fault("suit 1 a=1 ", 10);
+        fault("suit 1 a=1)", 10);
+        fault("suit 1 a=1&", 11);
+        fault("suit 1 a=1|;", 11);
+        fault("suit 1 a=1&&a=1", 11);
+        fault("suit 1 (a=1", 11);
+        fault("suit 1 (a=1;moth 1", 11);
+        fault("suit 1 ()", 8);
+        fault("suit 1 !", 8);
+        fault("suit 1 !!!!!a=1", 11);
+        fault("suit 1 !(!(!a=1))", 11);
+        fault("suit 1 ((((!a=1))))", 11);
+        fault("suit 1 (((((a=1)))))", 11);
+        fault("suit 1 ((((a=1)))", 17);
+        fault("gall 1", 6);
+        fault("gull 1 a=1", 1);
+        fault("moth 1 2", 6);
+        fault("moth 123", 7);
+        fault("math 1", 1);
+        fault("work 1", 6);
+        fault("work 1 ", 7);
+        fault("work 1 2 3", 8);
+        fault("word 1 2", 3);
+        fault("moth 1;", 7);
+        fault("moth 1;;", 7);
+        fault("moth 1; moth 1", 7);
+        fault("moth 1moth 1", 6);
         String nine = "moth 1;moth 1;moth 1;moth 1;moth 1;moth 1;moth 1;moth 1;moth 1;";
-        fault(x, nine, 63);
-        fault(x, nine + "moth 1;", 69);
-        fault(x, nine + "moth 1;moth 1", 69);
-        Check.due("ten clauses", Check.town(x, nine + "moth 2"), 0);
+        fault(nine, 63);
+        fault(nine + "moth 1;", 69);
+        fault(nine + "moth 1;moth 1", 69);
+        HatsDecide x = sound(nine + "moth 2");
         Check.due("the last holds", x.told(1), 2);
-        fault(x, "suit 1 " + "a=1&".repeat(23) + "a", 100);
-        Check.due("a hundred bytes", Check.town(x, "suit 10 " + "a=1&".repeat(22) + "a=12"), 1);
-        Check.due("one more is not fed", Check.town(x, "suit 10 " + "a=1&".repeat(22) + "a=12?"), 2);
+        fault("suit 1 " + "a=1&".repeat(23) + "a", 100);
+        sound("suit 10 " + "a=1&".repeat(22) + "a=12");
+        sound("suit 9 !!!!a=1");
+        sound("gall 09 !(!(a=1))");
     }
 
-    private static void fault(HatsDecide x, String text, int place) {
-        Check.due("fault of '" + text + "'", Check.town(x, text), -10 - place);
+    private static void fault(String text, int place) {
+        Check.due("fault of '" + text + "'", Check.town(new HatsDecide(), text), -10 - place);
+    }
+
+    private static HatsDecide sound(String text) {
+        HatsDecide x = new HatsDecide();
+        Check.due("town of '" + text + "'", Check.town(x, text), 0);
+        return x;
     }
 
     /** Which E hold of HAT 1 on HEAD 2, by FITS of 1. */

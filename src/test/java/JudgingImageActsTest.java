@@ -8,6 +8,7 @@ public final class JudgingImageActsTest {
         judge();
         image();
         undoOfEachPart();
+        newBehindUndo();
         undoLeavesTheRest();
         act();
         actsWrap();
@@ -80,7 +81,7 @@ public final class JudgingImageActsTest {
         x.row(0, 2, 7);
         x.own(0, 1);
         x.put(0, 1);
-        x.see(0, 40);
+        x.see(0, 37);
         x.book(0, 1);
         Check.town(x, "moth 5");
         x.day();
@@ -102,7 +103,7 @@ public final class JudgingImageActsTest {
         x.put(1, 1);
         x.skill(0, 1);
         x.see(-1, 0);
-        x.see(1, 3);
+        x.see(0, 3);
         x.see(1, 4);
         x.book(-1, 0);
         x.book(1, 0);
@@ -125,7 +126,8 @@ public final class JudgingImageActsTest {
         Check.due("USED", x.of(0, 5), 1);
         Check.due("USED of the other", x.of(1, 5), 0);
         Check.due("SEEN", x.count(3), 1);
-        Check.due("WORE", x.wore(1), 3);
+        Check.due("WORE", x.wore(0), 3);
+        Check.due("WORE of the other", x.wore(1), 3);
         Check.due("BOOK", x.count(4), 1);
         Check.due("LOOKED", x.looked(), -5);
         Check.due("MOTH", x.told(1), 5);
@@ -134,6 +136,29 @@ public final class JudgingImageActsTest {
         Check.due("DONE of another", x.told(12), 0);
         Check.due("heads", x.count(1), 2);
         Check.due("hats", x.count(0), 2);
+    }
+
+    /** A HAT that comes where undo() took one away has nothing of that one. */
+    private static void newBehindUndo() {
+        HatsDecide x = Check.heads(0);
+        x.image();
+        x.head(5);
+        x.hat(6, 0, 0, 10, 0);
+        for (int part = 0; part < 4; part++) {
+            x.row(0, part, 6);
+        }
+        x.put(0, 1);
+        x.own(1, 0);
+        x.day();
+        x.undo();
+        Check.due("a new hat", x.hat(6, 1, 0, 10, 0), 0);
+        Check.due("a new head", x.head(4), 1);
+        Check.due("USED", x.of(0, 5), 0);
+        Check.due("on none", x.of(0, 6), -5);
+        Check.due("OWN", x.at(1, 2), -5);
+        for (int part = 0; part < 4; part++) {
+            Check.due("ROW", x.row(0, part, 0), 0);
+        }
     }
 
     private static void undoLeavesTheRest() {

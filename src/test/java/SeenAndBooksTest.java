@@ -12,6 +12,7 @@ public final class SeenAndBooksTest {
         mean();
         book();
         looked();
+        asItIs();
         Check.end();
     }
 
@@ -171,5 +172,24 @@ public final class SeenAndBooksTest {
         Check.due("another then", x.looked(), 1);
         x.put(0, -1);
         Check.due("on none", x.looked(), 0);
+    }
+
+    /** By what DAY it is: each of these would be otherwise a DAY later. */
+    private static void asItIs() {
+        HatsDecide x = Check.heads(0, 0);
+        x.hat(0, 0, 0, 10, 0);
+        x.put(0, 0);
+        Check.town(x, "suit 5 e=1&d=0;suit 9 e=0&d=1;work 0 15");
+        x.see(0, 15);
+        Check.due("wore", x.wore(0), 2);
+        Check.due("who", x.who(), 1);
+        fraction("odds", x, 0, 1, 2);
+        Check.due("mean", x.mean(0, 0), 25);
+        x.day();
+        Check.due("wore, a day later", x.wore(0), 0);
+        Check.due("who, a day later", x.who(), 0);
+        Check.due("mean, a day later", x.mean(0, 0), 29);
+        x.day();
+        fraction("odds, two days later", x, 0, 0, 1);
     }
 }

@@ -11,6 +11,7 @@ public final class WaysTest {
         swap();
         quarrel();
         how();
+        asItIs();
         Check.end();
     }
 
@@ -188,5 +189,31 @@ public final class WaysTest {
         Check.due("two pinched", x.how(0), 2);
         Check.due("what 2", x.how(2), NONE);
         Check.due("what -1", x.how(-1), NONE);
+    }
+
+    /** By what DAY it is: each of these would be otherwise a DAY later. */
+    private static void asItIs() {
+        HatsDecide x = Check.heads(0, 0);
+        x.hat(0, 0, 0, 10, 0);
+        x.hat(0, 0, 0, 10, 1);
+        Check.town(x, "suit 5 a=0&e=1&d=0;suit 9 e=0&d=1;suit 1 d=0;work 0 16;work 1 12");
+        Check.wear(x, 0, 1);
+        Check.due("by", x.by(-1), 27);
+        row("by", x, 1, 0);
+        Check.due("can", x.can(), 1);
+        Check.due("gusted", x.gusted(1), 27);
+        Check.due("lucky", x.lucky(), 1);
+        Check.due("swap", x.swap(), 1);
+        Check.due("quarrel", x.quarrel(0, 1, 1), 5);
+        x.day();
+        Check.due("by, a day later", x.by(-1), 29);
+        row("by, a day later", x, 0, 1);
+        Check.due("can, a day later", x.can(), 3);
+        Check.due("gusted, a day later", x.gusted(1), 29);
+        Check.due("lucky, a day later", x.lucky(), 0);
+        Check.due("swap, a day later", x.swap(), -5);
+        Check.due("quarrel, a day later", x.quarrel(0, 1, 1), 0);
+        Check.town(x, "suit 1 a=0&e=1");
+        Check.due("swap for one more", x.swap(), 1);
     }
 }
