@@ -31,7 +31,7 @@ public final class HatsDecide {
     private final byte[] text = new byte[TEXT_BYTES];
     private int textBytes = 0;
     private final Town[] towns = new Town[MOST];
-    private final Town noTown = new Town(text);
+    private final Town noTown = new Town();
     private int townCount = 0;
 
     private final Trace ran = new Trace();
@@ -46,7 +46,7 @@ public final class HatsDecide {
 
     public HatsDecide() {
         for (int i = 0; i < MOST; i++) {
-            towns[i] = new Town(text);
+            towns[i] = new Town();
             tapes[i] = new Tape();
         }
     }
@@ -201,7 +201,7 @@ public final class HatsDecide {
             return FULL;
         }
         // A TEXT with a FAULT may spoil this one: no TOWN bears its number yet.
-        int fault = towns[townCount].parse(textBytes);
+        int fault = towns[townCount].parse(text, textBytes);
         textBytes = 0;
         if (fault != Town.SOUND) {
             return -10 - fault;
@@ -1144,6 +1144,7 @@ public final class HatsDecide {
         private static final String DIGITS = "0123456789";
         private static final String WORDS = "suitgallmothwork";
         private static final String FIRST_LETTERS = "sgmw";
+        private static final byte[] NO_BYTES = {};
         private static final int SUIT = 0, GALL = 1, MOTH = 2, WORK = 3;
         private static final int WORD_LENGTH = 4, MOST_CLAUSES = 10, MOST_WITHIN = 4;
         private static final int USUAL_WORK = 10;
@@ -1159,14 +1160,10 @@ public final class HatsDecide {
         /** Each code comes from a byte of its own at least. */
         private final int[] code = new int[TEXT_BYTES];
 
-        private final byte[] source;
+        private byte[] source = NO_BYTES;
         private int bytes = 0;
         private int place = 0;
         private boolean isSound = true;
-
-        Town(byte[] source) {
-            this.source = source;
-        }
 
         // ---- what the CLAUSES say
 
@@ -1232,8 +1229,9 @@ public final class HatsDecide {
         // ---- reading THE TEXT; behind a FAULT nothing goes on
 
         /** Becomes what so many bytes of THE TEXT say: SOUND, or the FAULT. */
-        int parse(int length) {
-            bytes = Math.min(length, source.length);
+        int parse(byte[] text, int length) {
+            source = text;
+            bytes = Math.min(length, text.length);
             place = 0;
             isSound = true;
             clauses = 0;
