@@ -775,7 +775,8 @@ public final class HatsDecide {
 
     /**
      * Fills most: at h * SETS + set, what HEADS h and on can do at most while other HEADS have
-     * the HATS of the set on; -1 if then the HATS allowed can't be on as many HEADS as they must.
+     * the HATS of the set on (all of them allowed ones); -1 if then the HATS allowed can't be on
+     * as many HEADS as they must.
      */
     private void weighWays(int allowed) {
         int must = Math.min(now.heads, Integer.bitCount(allowed));
@@ -784,7 +785,9 @@ public final class HatsDecide {
         }
         for (int h = now.heads - 1; h >= 0; h--) {
             for (int set = 0; set < SETS; set++) {
-                most[h * SETS + set] = mostFrom(h, set, allowed);
+                if ((set & ~allowed) == 0) {
+                    most[h * SETS + set] = mostFrom(h, set, allowed);
+                }
             }
         }
     }
