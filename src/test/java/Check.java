@@ -1,3 +1,5 @@
+import java.util.function.IntToLongFunction;
+
 /** What the tests share: counting wrong answers, and calls that take many lines otherwise. */
 final class Check {
     private static int wrong = 0;
@@ -9,6 +11,18 @@ final class Check {
         if (got != want) {
             wrong++;
             System.out.println(call + " answered " + got + ", due is " + want);
+        }
+    }
+
+    static void yes(String what, boolean is) {
+        due(what, is ? 1 : 0, 1);
+    }
+
+    /** A call that answers so just below and just above what a number may be, and farthest off. */
+    static void beyond(String call, int least, int greatest, long want, IntToLongFunction with) {
+        int[] beyond = {least - 1, greatest + 1, Integer.MIN_VALUE, Integer.MAX_VALUE};
+        for (int n : beyond) {
+            due(call + " with " + n, with.applyAsLong(n), want);
         }
     }
 

@@ -6,7 +6,11 @@ public final class ModelTest {
     /** A round of calls is begun only while the longest one, a whole TEXT, fits below 512 calls. */
     private static final int RUNS = 800, CALLS = 512, LONGEST = 110;
 
+    /** One of so many numbers is as far off as can be above 0, and one below 0. */
+    private static final int SELDOM = 300, OFTEN = 12;
+
     private static long seed;
+    private static int oneIn;
     private static int calls;
     private static HatsDecide x;
     private static Model m;
@@ -14,6 +18,7 @@ public final class ModelTest {
     public static void main(String[] args) {
         for (int run = 0; run < RUNS; run++) {
             seed = 7919L * run + 17;
+            oneIn = run % 10 == 9 ? OFTEN : SELDOM;
             x = new HatsDecide();
             m = new Model();
             calls = 0;
@@ -38,7 +43,7 @@ public final class ModelTest {
 
     /** Now and then a number far off. */
     private static int some(int least, int greatest) {
-        int far = below(300);
+        int far = below(oneIn);
         return far == 0 ? Integer.MAX_VALUE : far == 1 ? Integer.MIN_VALUE : from(least, greatest);
     }
 
