@@ -26,20 +26,32 @@ public final class LanguageTest {
         "tape(int,int,int):int", "today(int):int", "told(int):int", "town():int", "trace(int):int",
         "undo():int", "who():int", "wore(int):int"
     };
-    private static final String[] CONSTANTS = {"BAD", "FULL", "NO", "NONE", "STATE"};
+    private static final String[] CONSTANTS = {"BAD:int:-2", "FULL:int:-4", "NO:long:" + Long.MIN_VALUE,
+        "NONE:int:-1", "STATE:int:-3"};
+    /** What the interface says ahead of its calls, and those calls in their order. */
+    private static final String[] SECTIONS = {
+        "heads, hats, towns: head hat of at row put own skill feed town told",
+        "days, gusts: day gust change",
+        "what is done: today enough best on lasts",
+        "ways, changes: by can back gusted lucky swap quarrel how",
+        "seen, odds, books: see wore who odds mean book looked",
+        "judging, the image, acts, tapes: judge image undo act trace taken count tape item read shift"
+    };
     private static final String[] BARRED = {
         "throw", "throws", "try", "catch", "finally", "synchronized", "assert", "record", "sealed",
         "var", "volatile", "transient", "native", "hashCode", "toString", "System\\.out",
         "Object", "Exception", "\\w*Exact", "->", "::", "@\\w+", "package"
     };
 
-    public static void main(String[] args) throws IOException {
+    public static void main(String[] args) throws IOException, IllegalAccessException {
         methods();
         fieldsAndConstructor();
         classes();
         String source = Files.readString(Path.of("src/main/java/HatsDecide.java"), StandardCharsets.US_ASCII);
         words(source.replaceAll("/\\*(?s:.*?)\\*/|//.*", "").replaceAll("\"[^\"]*\"", "\"\""));
         lengths(source);
+        sections(source);
+        objectsOfCalls(source);
         Check.end();
     }
 
@@ -75,11 +87,13 @@ public final class LanguageTest {
         Check.due(what + ": " + is, is.equals(due) ? 1 : 0, 1);
     }
 
-    private static void fieldsAndConstructor() {
+    private static void fieldsAndConstructor() throws IllegalAccessException {
         Set<String> is = new TreeSet<>();
+        int constant = Modifier.PUBLIC | Modifier.STATIC | Modifier.FINAL;
         for (Field field : HatsDecide.class.getDeclaredFields()) {
             if (!Modifier.isPrivate(field.getModifiers())) {
-                is.add(field.getName());
+                Check.due(field + " is a constant", field.getModifiers(), constant);
+                is.add(field.getName() + ":" + field.getType().getName() + ":" + field.get(null));
             }
         }
         same("the constants", is, Set.of(CONSTANTS));
@@ -140,6 +154,37 @@ public final class LanguageTest {
                     end++;
                 }
                 Check.due("length of" + lines[i], Math.max(60, end - i + 1), 60);
+            }
+        }
+    }
+
+    /** The calls in the order of the interface, behind what it says ahead of them. */
+    private static void sections(String source) {
+        StringBuilder is = new StringBuilder();
+        Matcher matcher = Pattern.compile("(?m)^ {4}// ---- (.*)$|^ {4}public (?:int|long) (\\w+)\\(").matcher(source);
+        while (matcher.find()) {
+            is.append(matcher.group(1) != null ? "\n" + matcher.group(1) + ":" : " " + matcher.group(2));
+        }
+        // Behind the face come the sections of what is private; they have no calls.
+        for (String section : SECTIONS) {
+            Check.yes("as the interface says: " + section, is.indexOf("\n" + section + "\n") >= 0);
+        }
+        for (int i = 1; i < SECTIONS.length; i++) {
+            Check.yes("in its order: " + SECTIONS[i], is.indexOf(SECTIONS[i - 1]) < is.indexOf(SECTIONS[i]));
+        }
+    }
+
+    /** All calls share one room: rows are made with the object, and no call makes any but hat() its HAT. */
+    private static void objectsOfCalls(String source) {
+        String method = "";
+        for (String line : source.split("\n")) {
+            Matcher opens = Pattern.compile("^ {4,8}(?=\\w)[\\w\\[\\] ]*?(\\w+)\\(.*\\) \\{$").matcher(line);
+            if (opens.find() && !opens.group(1).matches("if|for|while|switch")) {
+                method = opens.group(1);
+            }
+            boolean isOfAField = line.matches("^ {4,8}(private |static |final ).* = (new |\\{).*;$");
+            if (line.matches(".*(\\bnew [A-Za-z]|= \\{).*") && !isOfAField) {
+                Check.yes("made in " + method + ":" + line, method.equals("HatsDecide") || method.equals("newHat"));
             }
         }
     }
