@@ -27,6 +27,8 @@ public final class EdgesHeadsHatsTest {
         atWhat();
         rowIsForToldOnesAlone();
         rowOf4Numbers();
+        rowsAreOfEachHatAlone();
+        whatComesChangesNoOther();
         putOnNone();
         putWhereItIs();
         putWhereAnotherOneIs();
@@ -336,6 +338,42 @@ public final class EdgesHeadsHatsTest {
         for (int part = 0; part < 4; part++) {
             Check.due("what it was", x.row(0, part, 0), 9);
             Check.due("0 again", x.row(0, part, 0), 0);
+        }
+    }
+
+    private static void rowsAreOfEachHatAlone() {
+        HatsDecide x = new HatsDecide();
+        for (int hat = 0; hat < 6; hat++) {
+            x.hat(6, 0, 0, 0, 0);
+            for (int part = 0; part < 4; part++) {
+                Check.due("ROW of HAT " + hat + " as it comes", x.row(hat, part, (hat + 3 * part) % 9 + 1), 0);
+            }
+        }
+        for (int hat = 0; hat < 6; hat++) {
+            for (int part = 0; part < 4; part++) {
+                Check.due("ROW of HAT " + hat + ", " + part, x.row(hat, part, 0), (hat + 3 * part) % 9 + 1);
+            }
+        }
+    }
+
+    private static void whatComesChangesNoOther() {
+        HatsDecide x = new HatsDecide();
+        for (int i = 0; i < 6; i++) {
+            x.head(9 - i);
+            x.hat(i, 9 - i, i, 40 + i, i % 5);
+            x.put(i, i);
+            x.own(i, i);
+            x.skill(i, 30 + i);
+            x.day();
+            for (int was = 0; was <= i; was++) {
+                int[] of = {was, 9 - was, was, 30 + was, was % 5, i - was + 1, was};
+                for (int what = 0; what < of.length; what++) {
+                    Check.due("of(" + was + ", " + what + ") behind HAT " + i, x.of(was, what), of[what]);
+                }
+                Check.due("SIZE of HEAD " + was + " behind HEAD " + i, x.at(was, 0), 9 - was);
+                Check.due("HEAD " + was + " has on", x.at(was, 1), was);
+                Check.due("HEAD " + was + " OWNS", x.at(was, 2), was);
+            }
         }
     }
 

@@ -22,6 +22,8 @@ public final class EdgesJudgingTest {
         undoMakesRoomAgain();
         undoOfTownsAndWhatIsNotInTheImage();
         undoOfDoneAtItsEnd();
+        undoOfEachThatIsSeen();
+        undoOfEachRowOfTheBook();
         actOfNoNumber();
         noTraceBehindNoAct();
         sitsWraps();
@@ -233,6 +235,50 @@ public final class EdgesJudgingTest {
         Check.due("THE TEXT stays", x.count(5), 1);
         Check.due("TAPES stay", x.read(4, 0), 7);
         Check.due("THE TRACE stays", x.trace(2), 10);
+    }
+
+    private static void undoOfEachThatIsSeen() {
+        HatsDecide x = made(2, 6);
+        for (int i = 0; i < 6; i++) {
+            x.see(i, i % 2 == 0 ? 10 : 11);
+        }
+        x.image();
+        for (int round = 0; round < 2; round++) {
+            x.see(-1, 0);
+            for (int i = 0; i < 6; i++) {
+                x.see(round == 0 ? 5 - i : i, 10 + (i + round) % 2);
+            }
+            x.undo();
+            Check.due("SEEN", x.count(3), 6);
+            for (int hat = 0; hat < 6; hat++) {
+                Check.due("WORE of " + hat + ", " + round, x.wore(hat), hat % 2 == 0 ? 3 : 0);
+            }
+        }
+    }
+
+    private static void undoOfEachRowOfTheBook() {
+        HatsDecide x = made(6, 6);
+        int[] hats = {3, 1, 4, 1, 5, 2, 0, 3};
+        for (int hat = 0; hat < 6; hat++) {
+            x.put(hat, 5 - hat);
+        }
+        for (int hat : hats) {
+            x.book(hat, 5 - hat);
+        }
+        x.image();
+        int[] first = {6, 1, 5, 0, 2, 4};
+        for (int hat = 0; hat < 6; hat++) {
+            x.book(-1, 0);
+            for (int i = 0; i < 8; i++) {
+                x.book(hat, i % 6);
+            }
+            x.undo();
+            Check.due("rows", x.count(4), 8);
+            Check.due("LOOKED at", x.looked(), -5);
+            x.put(hat, -1);
+            Check.due("LOOKED at without HAT " + hat, x.looked(), first[hat]);
+            x.undo();
+        }
     }
 
     private static void undoOfDoneAtItsEnd() {

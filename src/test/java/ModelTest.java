@@ -3,8 +3,11 @@
  * row of numbers that is the same every time.
  */
 public final class ModelTest {
-    /** A round of calls is begun only while the longest one, a whole TEXT, fits below 512 calls. */
-    private static final int RUNS = 800, CALLS = 512, LONGEST = 110;
+    /**
+     * A round of calls is begun only while the longest one, a whole TEXT, and what some runs ask
+     * at their end fit below 512 calls.
+     */
+    private static final int RUNS = 1600, CALLS = 512, LONGEST = 110, END = 100;
 
     /** One of so many numbers is as far off as can be above 0, and one below 0. */
     private static final int SELDOM = 300, OFTEN = 12;
@@ -25,11 +28,42 @@ public final class ModelTest {
             if (run % 8 != 0) {
                 begin(run);
             }
-            while (calls < CALLS - LONGEST) {
+            boolean asksAtTheEnd = run < RUNS / 2;
+            while (calls < CALLS - LONGEST - (asksAtTheEnd ? END : 0)) {
                 oneCall();
             }
+            if (asksAtTheEnd) {
+                allAtTheEnd();
+            }
+            Check.due("calls of a run within 512", Math.max(CALLS, calls), CALLS);
         }
         Check.end();
+    }
+
+    /** What a call changed that it should not have, and nothing asked for since. */
+    private static void allAtTheEnd() {
+        for (int i = 0; i < m.count(0); i++) {
+            for (int what = 0; what <= 6; what++) {
+                same("of " + what, x.of(i, what), m.of(i, what));
+            }
+            for (int part = 0; part < 4; part++) {
+                same("row " + part, x.row(i, part, part), m.row(i, part, part));
+            }
+        }
+        for (int i = 0; i < m.count(1); i++) {
+            same("at 1", x.at(i, 1), m.at(i, 1));
+            same("at 2", x.at(i, 2), m.at(i, 2));
+        }
+        for (int what = 0; what < 5; what++) {
+            same("done", x.told(10 + what), m.told(10 + what));
+            same("work", x.told(20 + what), m.told(20 + what));
+        }
+        for (int what = 0; what <= 6; what++) {
+            same("count", x.count(what), m.count(what));
+        }
+        same("day", x.told(0), m.told(0));
+        same("looked", x.looked(), m.looked());
+        same("who", x.who(), m.who());
     }
 
     private static int below(int n) {
@@ -71,6 +105,10 @@ public final class ModelTest {
             same("hat", x.hat(kind, v, size, skill, trade), m.hat(kind, v, size, skill, trade));
             int head = from(-1, heads - 1);
             same("put", x.put(i, head), m.put(i, head));
+            for (int part = 0; part < 4 && kind == 6; part++) {
+                int n = from(0, 9);
+                same("row", x.row(i, part, n), m.row(i, part, n));
+            }
         }
         feedText();
         same("town", x.town(), m.town());
