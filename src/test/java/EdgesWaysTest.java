@@ -10,6 +10,7 @@ public final class EdgesWaysTest {
         byIsTheFirstOfSeveralRows();
         byOfHeadsThatAreNotThere();
         byDoesNotLookAtWhatIsOnNow();
+        byHasEachHatOnOnce();
         byOf6On6();
         canIsWorkOrMore();
         canOfNoWork();
@@ -117,6 +118,19 @@ public final class EdgesWaysTest {
         Check.wear(x, 0, 1);
         by("on HEADS", x, 25, 1, 0, -5, -5, -5, -5);
         Check.due("HAT 0 stays", x.of(0, 6), 0);
+    }
+
+    private static void byHasEachHatOnOnce() {
+        // HAT 1 on HEAD 1 too, and HAT 2 where it does 10, would come to as much as HAT 2 on HEAD 1.
+        HatsDecide x = Check.heads(0, 0, 0, 0);
+        x.hat(0, 0, 0, 0, 0);
+        x.hat(0, 0, 0, 5, 0);
+        x.hat(0, 0, 0, 10, 0);
+        Check.due("town", Check.town(x, "suit 50 a=1&e=0;suit 5 a=2&e=1;suit 40 a=0&e=3"), 0);
+        int[] due = {110, 1, 2, -5, 0};
+        for (int k = -1; k < 4; k++) {
+            Check.due("by(" + k + ")", x.by(k), due[k + 1]);
+        }
     }
 
     private static void byOf6On6() {
